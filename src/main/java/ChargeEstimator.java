@@ -315,8 +315,8 @@ public final class ChargeEstimator {
     }
 
     /**
-     * The bits of a normal float above 0, found by scaling it to 1 .. 2, which loses nothing:
-     * LANGUAGE.md leaves no library call for it.
+     * The bits of a float above 0 and below 2 (a health is never outside 0.5 to 1.5), found by
+     * doubling it up to 1, which loses nothing: LANGUAGE.md leaves no library call for it.
      */
     private static int bitsOf(float number) {
         float scaled = number;
@@ -324,10 +324,6 @@ public final class ChargeEstimator {
         for (int i = 0; i < 126 && scaled < 1.0f; i++) {
             scaled = scaled * 2.0f;
             exponent--;
-        }
-        for (int i = 0; i < 127 && scaled >= 2.0f; i++) {
-            scaled = scaled / 2.0f;
-            exponent++;
         }
         return (exponent << 23) + (int) ((scaled - 1.0f) * 8388608.0f);
     }

@@ -375,6 +375,13 @@ final class MeasurementTest {
         x.simulate(50000, 1, 1000, 1);
         x.measure(0, 5998, 1);
         Check.due("a voltage of 6000 was the one before", x.status(0), 1);
+        x.set(5, 0);
+        x.simulate(-50000, 1, 1000, 1);
+        x.measure(0, 0, 1);
+        Check.due("it was just 0", x.status(0), 1);
+        x.simulate(50000, 1, 1000, 1);
+        x.measure(0, 6000, 1);
+        Check.due("it was just 6000", x.status(0), 1);
     }
 
     private static void refuses() {
