@@ -793,7 +793,7 @@ public final class ChargeEstimator {
         }
 
         void restore(Battery battery) {
-            if (size <= 0) {
+            if (size <= 0 || size > LIMIT) {
                 return;
             }
             size--;
